@@ -83,7 +83,7 @@ public final class TrialBook {
 
     public int run(int k, int settings, int seed, int ticks) {
         Code code = codeAt(k);
-        if (code == null || !areSettings(settings) || !isSeed(seed) || !areTicks(ticks) || isFull()) {
+        if (code == null || !areSettings(settings) || !isSeed(seed) || !areTicks(ticks)) {
             return NONE;
         }
         return enter(new Run(k, code, settings, seed, ticks));
@@ -94,7 +94,7 @@ public final class TrialBook {
         if (source == null || source.broken || t < 0 || t > source.rowCount) {
             return NONE;
         }
-        if (!areSettings(settings) || !isSeed(seed) || isFull()) {
+        if (!areSettings(settings) || !isSeed(seed)) {
             return NONE;
         }
         Run made = new Run(source.codeNumber, source.code, settings, seed, source.ticks);
@@ -311,13 +311,9 @@ public final class TrialBook {
         return i >= 0 && i < bounds.length ? bounds[i] : 1;
     }
 
-    private boolean isFull() {
-        return runCount < 0 || runCount >= runRows.length;
-    }
-
-    /** Does the ticks of a run and gives it its number. */
+    /** Does the ticks of a run and gives it its number; in a full book neither is done. */
     private int enter(Run made) {
-        if (isFull()) {
+        if (runCount < 0 || runCount >= runRows.length) {
             return NONE;
         }
         world.clock++;
@@ -671,7 +667,9 @@ public final class TrialBook {
                 int kind = step >> 4;
                 int o = step & 15;
                 if (kind == LEAVE_OUT) {
-                    j += readSetting(o) > o / 4 ? 1 : 0;
+                    if (readSetting(o) > o / 4) {
+                        j++;
+                    }
                 } else if (kind == BREAK) {
                     broken = remainder(x, o + 1) == 0;
                 } else {
@@ -689,6 +687,7 @@ public final class TrialBook {
                 case MIX_SEED: return x ^ readSeed() * (o + 1);
                 case ADD_WORD: return x + readWord((t + o) % WORDS, now);
                 case ADD_CLOCK: return x + readClock(now);
+                // With o 0 both shifts are by 0, as Java takes 32 for 0.
                 case TURN: return x << o | x >>> (32 - o);
                 case REMAINDER: return remainder(x, o + 2);
                 default: return x;

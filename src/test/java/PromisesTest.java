@@ -886,6 +886,8 @@ public final class PromisesTest {
         // 6 comparisons times 170 is 1020, at most 2 to the 10
         due("at 170", x.best(0, 1, 170), 2);
         due("at 171", x.best(0, 1, 171), NONE);
+        x.bound(0, 2);
+        due("2 is out of bounds", x.best(0, 1, 1), NONE);
     }
 
     private static void holes() {
@@ -969,6 +971,10 @@ public final class PromisesTest {
     private static void idle() {
         TrialBook x = new TrialBook();
         due("without runs", x.idle(), 15);
+        x.code(0, 1, 0x21000000, 0);
+        x.run(0, 0x0006, 0, 1);
+        due("a refused run reads none", x.idle(), 15);
+        x.code(0, 0, 0, 0);
         x.run(0, 0x5555, 0, 1);
         due("one that reads none", x.idle(), 15);
         x.code(0, 2, 0x32200000, 0);
@@ -977,6 +983,8 @@ public final class PromisesTest {
         due("2 was read, 0 left out", x.idle(), 15 - 4);
         x.fork(1, 0, 0, 0);
         due("a fork reads 0", x.idle(), 15 - 4 - 1);
+        x.again(0);
+        due("a repeat is no run", x.idle(), 15 - 4 - 1);
         x.code(0, 2, 0x23900000, 0);
         x.run(0, 0, 0, 1);
         due("a broken one reads 3", x.idle(), 2);
