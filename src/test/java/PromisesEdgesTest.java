@@ -441,21 +441,9 @@ public final class PromisesEdgesTest {
         for (int[] a : bad) {
             due.is("sure" + Arrays.toString(a), x.sure(a[0], a[1], a[2], a[3], a[4], a[5]), NONE);
         }
-        due.is("30", withSigns(30).sure(0, 0, 1, 1, 1, 1), 1);
-        due.is("31", withSigns(31).sure(0, 0, 1, 1, 1, 1), NONE);
-        due.is("39, the most that can be won by one run", withSigns(39).sure(0, 1, 0, 1, 1, 1), NONE);
-    }
-
-    /** So many pairs by setting 0, 0 against 1, all won: the one run at 1 leaves the word out. */
-    private static TrialBook withSigns(int won) {
-        TrialBook x = new TrialBook();
-        Books.steps(x, 0, 0x30, 0x50);
-        x.run(0, 1, 0, 1);
-        for (int n = 1; n <= won; n++) {
-            x.data(0, -n);
-            x.run(0, 0, 0, 1);
-        }
-        return x;
+        due.is("30", Books.withMany(30, 0, false).sure(0, 0, 1, 1, 1, 1), 1);
+        due.is("31", Books.withMany(31, 0, false).sure(0, 0, 1, 1, 1, 1), NONE);
+        due.is("39, the most that can be won by one run", Books.withMany(39, 0, false).sure(0, 1, 0, 1, 1, 1), NONE);
     }
 
     private static void best() {
@@ -476,7 +464,7 @@ public final class PromisesEdgesTest {
             due.is("not at one more", x.best(3, 1, odds[bound] + 1), NONE);
             due.is("at 1", x.best(3, 1, 1), bound - 1);
         }
-        TrialBook y = withSigns(30);
+        TrialBook y = Books.withMany(30, 0, false);
         due.is("30 signs at 1000000", y.best(0, 1, 1000000), 1);
         TrialBook z = new TrialBook();
         Books.steps(z, 0, 0x30, 0x01);
@@ -493,7 +481,7 @@ public final class PromisesEdgesTest {
 
     private static void bestNone() {
         due.sentence("NONE: there is none, BOUND 1, or one can't be.");
-        TrialBook x = withSigns(10);
+        TrialBook x = Books.withMany(10, 0, false);
         due.is("there is one", x.best(0, 1, 1), 1);
         due.is("at 512", x.best(0, 1, 512), 1);
         due.is("at 513 there is none", x.best(0, 1, 513), NONE);
@@ -510,7 +498,7 @@ public final class PromisesEdgesTest {
         for (int[] a : bad) {
             due.is("best" + Arrays.toString(a), x.best(a[0], a[1], a[2]), NONE);
         }
-        due.is("31 signs are not told", withSigns(31).best(0, 1, 1), NONE);
+        due.is("31 signs are not told", Books.withMany(31, 0, false).best(0, 1, 1), NONE);
         due.is("without runs", new TrialBook().best(0, 1, 1), NONE);
         TrialBook ties = new TrialBook();
         ties.run(0, 0, 0, 1);
@@ -535,10 +523,16 @@ public final class PromisesEdgesTest {
         due.is("the last is filled", x.holes(1, 1, 8), 10367);
         x.run(1, 0x0000, 0, 1);
         due.is("the first is filled", x.holes(1, 1, 8), 10366);
-        x.run(1, 0x0000, 8, 1);
+        x.run(1, 0x0001, 8, 1);
         due.is("seed 8 is not there", x.holes(1, 1, 8), 10366);
         x.bound(0, 5);
         due.is("what is not below a bound fills none", x.holes(1, 1, 8), 8640 - 1);
+        TrialBook y = new TrialBook();
+        Books.steps(y, 0, 0x20, 0x21, 0x22, 0x40);
+        for (int r = 0; r < 40; r++) {
+            y.run(0, r % 2 + 16 * (r / 2 % 2) + 256 * (r / 4 % 2), r / 8, 1);
+        }
+        due.is("40 runs that fill two holes each", y.holes(0, 1, 8), 128 - 80);
         due.sentence("NONE if something can't be (s 1 .. 8).");
         int[][] bad = {
             {0, 1, 0}, {0, 1, 9}, {0, 1, -1}, {0, 1, LEAST}, {0, 1, MOST}, {0, 1, 32}, {0, 1, 33}, {-1, 1, 1}, {4, 1, 1},
@@ -557,6 +551,15 @@ public final class PromisesEdgesTest {
         due.is("settings of the ninth", x.hole(0, 1, 8, 8, 0), 0x1000);
         due.is("settings of the last", x.hole(3, 16, 8, 127, 0), 0x1111);
         due.is("seed of the last", x.hole(3, 16, 8, 127, 1), 7);
+        for (int i = 0; i < 4; i++) {
+            x.bound(i, 6);
+        }
+        due.is("settings of the last of all that can be", x.hole(0, 1, 8, 10367, 0), 0x5555);
+        due.is("its seed", x.hole(0, 1, 8, 10367, 1), 7);
+        due.is("behind it", x.hole(0, 1, 8, 10368, 0), NONE);
+        for (int i = 0; i < 4; i++) {
+            x.bound(i, 2);
+        }
         Books.steps(x, 0, 0x20, 0x40);
         x.run(0, 0x0000, 0, 1);
         due.is("behind a filled seed: settings", x.hole(0, 1, 2, 0, 0), 0x0000);

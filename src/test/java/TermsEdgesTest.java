@@ -45,6 +45,7 @@ public final class TermsEdgesTest {
         holes();
         holesOrder();
         idle();
+        idleByAll();
         twentyClaims();
         claimsGoStale();
         due.end();
@@ -79,6 +80,12 @@ public final class TermsEdgesTest {
             due.is("of 0", y.of(k, 115), 0);
             due.is("nothing read", y.of(k, 8) + y.of(k, 9) + y.of(k, 10) + y.of(k, 11), 0);
             due.is("all four are alike", y.saved(k, 0, 0, 16), 0);
+        }
+        for (int k = 0; k < 4; k++) {
+            Books.steps(y, k);
+            due.is("to have none is not another code", y.of(k, 12), 0);
+            y.code(k, 0, -1, -1);
+            due.is("whatever bytes there are", y.of(k, 12), 0);
         }
         due.sentence("each a byte: 16 times its KIND and an operand o 0 .. 15");
         due.is("kind 0, o 0", Books.end(x, 0, 0, 1, 0x00), 0);
@@ -541,6 +548,8 @@ public final class TermsEdgesTest {
         due.is("a step less", x.of(0, 12), 1);
         Books.steps(x, 1, 0x01, 0xA0, 0xA0);
         due.is("a step more", x.of(0, 12), 1);
+        Books.steps(x, 1, 0x00, 0x01, 0xA0);
+        due.is("a step more at the head, of 0", x.of(0, 12), 1);
         Books.steps(x, 1, 0x01, 0xA1);
         due.is("another operand, though it does the same", x.of(0, 12), 1);
         Books.steps(x, 1, 0xA0, 0x01);
@@ -842,39 +851,23 @@ public final class TermsEdgesTest {
         due.is("M 1001", x.sure(0, 0, 1, 1, 1001, 1), NONE);
     }
 
-    /** One run with setting 0 at 1 that pairs with each at 0, as it leaves the word out. */
-    private static TrialBook withMany(int won, int lost, int ties) {
-        TrialBook x = new TrialBook();
-        Books.steps(x, 0, 0x30, 0x50);
-        for (int n = 0; n < won + lost; n++) {
-            x.data(0, n < won ? -1 - n : 1 + n);
-            x.run(0, 0, 0, 1);
-        }
-        x.data(0, 0);
-        for (int n = 0; n < ties; n++) {
-            x.run(0, 0, 0, 1);
-        }
-        x.run(0, 1, 0, 1);
-        return x;
-    }
-
     private static void thirtySigns() {
         due.sentence("(n 30 at most: more are not told.)");
-        due.is("30", withMany(30, 0, 0).sure(0, 0, 1, 1, 1000, 1000000), 1);
-        due.is("31", withMany(31, 0, 0).sure(0, 0, 1, 1, 1, 1), NONE);
-        due.is("30 won, 1 lost", withMany(30, 1, 0).sure(0, 0, 1, 1, 1, 1), NONE);
-        due.is("31 lost", withMany(0, 31, 0).sure(0, 0, 1, 1, 1, 1), NONE);
-        due.is("39", withMany(20, 19, 0).sure(0, 0, 1, 1, 1, 1), NONE);
-        due.is("30 and a tie", withMany(30, 0, 1).pairs(0, 0, 1, 1, 0), 31);
-        due.is("a tie is not one of n", withMany(30, 0, 1).sure(0, 0, 1, 1, 1000, 1000000), 1);
-        due.is("30 lost, at the most", withMany(0, 30, 0).sure(0, 0, 1, 1, 1000, 1000000), 0);
-        due.is("30 lost, at 1", withMany(0, 30, 0).sure(0, 0, 1, 1, 1, 1), 1);
+        due.is("30", Books.withMany(30, 0, false).sure(0, 0, 1, 1, 1000, 1000000), 1);
+        due.is("31", Books.withMany(31, 0, false).sure(0, 0, 1, 1, 1, 1), NONE);
+        due.is("30 won, 1 lost", Books.withMany(30, 1, false).sure(0, 0, 1, 1, 1, 1), NONE);
+        due.is("31 lost", Books.withMany(0, 31, false).sure(0, 0, 1, 1, 1, 1), NONE);
+        due.is("39", Books.withMany(20, 19, false).sure(0, 0, 1, 1, 1, 1), NONE);
+        due.is("30 and a tie", Books.withMany(30, 0, true).pairs(0, 0, 1, 1, 0), 31);
+        due.is("a tie is not one of n", Books.withMany(30, 0, true).sure(0, 0, 1, 1, 1000, 1000000), 1);
+        due.is("30 lost, at the most", Books.withMany(0, 30, false).sure(0, 0, 1, 1, 1000, 1000000), 0);
+        due.is("30 lost, at 1", Books.withMany(0, 30, false).sure(0, 0, 1, 1, 1, 1), 1);
         // 30 over 29 and 30 over 30 make 31; 2 to the 30 by 31 is 34636833 and some.
-        due.is("29 of 30", withMany(29, 1, 0).sure(0, 0, 1, 1, 37, 936130), 1);
-        due.is("29 of 30, above", withMany(29, 1, 0).sure(0, 0, 1, 1, 37, 936131), 0);
+        due.is("29 of 30", Books.withMany(29, 1, false).sure(0, 0, 1, 1, 37, 936130), 1);
+        due.is("29 of 30, above", Books.withMany(29, 1, false).sure(0, 0, 1, 1, 37, 936131), 0);
         // The half of 2 to the 30, and half of 30 over 15, are above the half.
-        due.is("15 of 30", withMany(15, 15, 0).sure(0, 0, 1, 1, 1, 1), 1);
-        due.is("15 of 30 at 2", withMany(15, 15, 0).sure(0, 0, 1, 1, 1, 2), 0);
+        due.is("15 of 30", Books.withMany(15, 15, false).sure(0, 0, 1, 1, 1, 1), 1);
+        due.is("15 of 30 at 2", Books.withMany(15, 15, false).sure(0, 0, 1, 1, 1, 2), 0);
     }
 
     private static void holes() {
@@ -901,6 +894,8 @@ public final class TermsEdgesTest {
         due.is("seeds 0 and 3 of 4", x.holes(0, 1, 4), 1296 * 2);
         due.is("the first is seed 1", x.hole(0, 1, 4, 0, 1), 1);
         due.is("seed 0 of 1", x.holes(0, 1, 1), 0);
+        x.run(0, 0, 8, 1);
+        due.is("seed 8 is none of 8", x.holes(0, 1, 8), 1296 * 6);
         due.sentence("of a CODE as it is now");
         Books.steps(x, 0, 0x41);
         due.is("another code", x.holes(0, 1, 1), 1296);
@@ -938,6 +933,19 @@ public final class TermsEdgesTest {
             Books.steps(x, 0);
             due.is("though its code is gone", x.idle(), 15 - (1 << i));
         }
+    }
+
+    private static void idleByAll() {
+        due.sentence("that no RUN READ");
+        TrialBook x = new TrialBook();
+        Books.steps(x, 0, 0x22);
+        x.run(0, 0, 0, 1);
+        Books.steps(x, 0, 0x31);
+        x.run(0, 0, 0, 1);
+        for (int r = 2; r < 40; r++) {
+            x.run(1, 0, 0, 1);
+        }
+        due.is("the first two of 40 read 2 and 1", x.idle(), 15 - 4 - 2);
     }
 
     private static void twentyClaims() {

@@ -58,6 +58,25 @@ final class Books {
         return x;
     }
 
+    /**
+     * So many pairs by setting 0, 0 against 1, won and lost, and perhaps a tie, of one tick: the one run at 1
+     * leaves the word out, so that it pairs with each at 0.
+     */
+    static TrialBook withMany(int won, int lost, boolean tie) {
+        TrialBook x = new TrialBook();
+        steps(x, 0, 0x30, 0x50);
+        for (int n = 0; n < won + lost; n++) {
+            x.data(0, n < won ? -1 - n : 1 + n);
+            x.run(0, 0, 0, 1);
+        }
+        x.data(0, 0);
+        if (tie) {
+            x.run(0, 0, 0, 1);
+        }
+        x.run(0, 1, 0, 1);
+        return x;
+    }
+
     /** All that a book tells, in fewer than 300 calls; it is used up by this. */
     static String told(TrialBook x) {
         StringBuilder all = new StringBuilder();
