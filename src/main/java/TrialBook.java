@@ -569,8 +569,8 @@ public final class TrialBook {
 
         void addAll(Notes other) {
             settings |= other.settings;
-            seed |= other.seed;
-            clock |= other.clock;
+            seed = seed || other.seed;
+            clock = clock || other.clock;
             for (int i = 0; i < other.values.length; i++) {
                 if (isIn(i, other.words)) {
                     addWord(i, other.values[i]);
